@@ -172,6 +172,14 @@ public final class ActsTest {
         C.is("EXCUSED", x.weight(0, 0, 3), 0);
         C.is("EXCUSED", x.counted(0, 3, 2), 6);
         C.is("EXCUSED ones", x.count(8), 1);
+        WindowRoll y = new WindowRoll();
+        y.house(0, 0, 1, 1);
+        Checks.room(y, 0, 0, 0, 1, -1, 101, -101);
+        Checks.act(y, 0, "counts back*2+lattice*3");
+        int[] due = {0, 2, 3, 5};
+        for (int o = 0; o < 4; o++) {
+            C.is("back and lattice", y.weight(0, o, 0), due[o]);
+        }
     }
 
     private static void taxes() {

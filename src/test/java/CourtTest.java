@@ -45,6 +45,8 @@ public final class CourtTest {
         x.house(0, 0, 1, 1);
         Checks.room(x, 0, 0, 0, 1);
         C.is("no room for an appeal", x.appeal(0, 0), -3);
+        C.is("none such", x.overrule(60), -2);
+        C.is("none such", x.heldOf(60, 7), -2);
         x.overrule(0);
         C.is("those that fell are there", x.appeal(0, 0), -3);
         C.is("cases", x.count(3), 60);

@@ -76,6 +76,9 @@ public final class FaultTest {
         act("from 1 pay tax", 11);
         act("from 1 pay house", 11);
         act("from 1 pay known", 11);
+        act("from 1 pay how", 11);
+        act("from 1 pay collector", 11);
+        act(";".repeat(300), 0);
         act("from 1 pay spare", 11);
         act("from 1 pay not", 11);
         act("from 1 pay worth+families*street-rooms/openings+year-count", -1);
@@ -184,6 +187,8 @@ public final class FaultTest {
         ask("greatest greater(1,2)*10000", 22);
         ask("greatest " + "(".repeat(8) + "1" + ")".repeat(8), -1);
         ask("greatest " + "(".repeat(9) + "1" + ")".repeat(9), 17);
+        ask("number where " + "(".repeat(8) + "1" + ")".repeat(8) + "=1", -1);
+        ask("number where " + "(".repeat(9) + "1" + ")".repeat(9) + "=1", 21);
         ask("greater 1", 0);
         ask("spare", 0);
         ask("sum 1,", 5);

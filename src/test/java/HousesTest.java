@@ -118,6 +118,7 @@ public final class HousesTest {
             C.is("room", Checks.room(x, 0, 0, 0), r);
         }
         C.is("a 7th room", Checks.room(x, 0, 0, 0), -3);
+        C.is("light of 6", x.houseOf(0, 7), 36);
         int[][] due = {{1, 1, 5, 1, 0, 0, 0, -1}, {1, 30, 5, 1, 0, 0, 0, -1}, {1, 1, 5, 1, 0, 1, 0, -1},
             {1, 30, 5, 1, 0, 1, 0, -1}, {1, 1, 5, 1, 1, 0, 0, -1}, {1, 30, 5, 1, 1, 0, 0, -1},
             {1, 1, 5, 1, 1, 1, 0, -1}, {1, 30, 5, 1, 1, 1, 0, -1}};
@@ -201,6 +202,14 @@ public final class HousesTest {
         C.is("down", x.down(2), true);
         C.is("by itself", x.houseOf(2, 8), 2);
         C.is("least", x.houseOf(4, 8), 3);
+        C.is("join", x.roof(0, 1), 1);
+        C.is("part", x.roof(1, 0), 0);
+        C.is("part", x.roof(5, 3), 0);
+        C.is("part", x.roof(4, 3), 0);
+        x.house(0, 0, 1, 1);
+        for (int i = 0; i < 7; i++) {
+            C.is("each by itself", x.houseOf(i, 8), i);
+        }
         C.is("roof of DOWN", x.roof(2, 1), -2);
         C.is("roof of DOWN", x.roof(1, 2), -2);
     }

@@ -123,9 +123,10 @@ public final class LinesTest {
         C.is("no room for them", x.walk(3, 0), -3);
         C.is("not walked", x.walk(3, 0), -3);
         C.is("lines", x.count(5), 1186);
-        for (int i = 0; i < 14; i++) {
+        for (int i = 0; i < 13; i++) {
             C.is("look", x.look(0, i), 0);
         }
+        C.is("the last one", x.late(0, 0, 0), 0);
         C.is("lines", x.count(5), 1200);
         C.is("no room", x.look(0, 0), -1000003);
         C.is("no room", x.late(0, 0, 0), -3);
@@ -220,6 +221,8 @@ public final class LinesTest {
         C.is("collector", x.habit(-1, 0, 0), -1000000);
         C.is("collector", x.habit(0, 4, 0), -1000000);
         C.is("no two", x.habit(2, 2, 0), -1000000);
+        C.is("what", x.habit(0, 1, 4), -1000000);
+        C.is("what", x.habit(0, 1, -1), -1000000);
         for (int what = 0; what < 4; what++) {
             C.is("of none", x.habit(0, 1, what), 0);
         }

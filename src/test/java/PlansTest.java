@@ -47,6 +47,13 @@ public final class PlansTest {
         C.is("boarded ones stay", x.planned(0), 4);
         C.is("a refused one changes nothing", x.plan(0, 11), -1000000);
         C.is("a refused one changes nothing", x.planned(0), 4);
+        x.make(0, 2, 1);
+        x.light(0, 9, 200);
+        C.is("opened", x.plan(0, 2), 32);
+        C.is("opened again", x.plan(0, 2), 32);
+        Checks.act(x, 0, "from 1 pay 50");
+        C.is("left bricked", x.plan(0, 2), 0);
+        C.is("left bricked", x.planned(1), 0);
         x.down(0);
         C.is("DOWN", x.plan(0, 1), -1000000);
     }
@@ -161,6 +168,11 @@ public final class PlansTest {
         C.is("the TAPE stays", x.count(6), 19);
         C.is("read", x.beside(10, 4), 4 * (40 + 90));
         C.is("the TAPE is empty", x.count(6), 0);
+        String counted = "counts year+1;from 1 pay 1";
+        long[] byYear = {5, 5 + 10 + 15, 5, 33, 4 + 8 + 12};
+        for (int what = 0; what < 5; what++) {
+            C.is("WEIGHTS by YEAR " + what, Checks.beside(x, 3, what, counted), byYear[what]);
+        }
         C.is("a FAULT", Checks.beside(x, 1, 0, "from"), -4);
         C.is("the TAPE is empty", x.count(6), 0);
     }
