@@ -213,6 +213,8 @@ public final class ActsTest {
         C.is("some spare", x.tax(0, 0, 3), 0);
         x.worth(0, 100, 2);
         C.is("none holds", x.tax(0, 0, 3), 3);
+        Checks.act(x, 0, "spare when families=2;from 1 pay 1");
+        C.is("the first RULE", x.tax(0, 0, 3), 0);
         Checks.act(x, 0, "from 9999 pay 1;from 1000 pay 2;from 999 pay 1");
         C.is("greatest", x.tax(0, 0, 1000), 2000);
         C.is("one less", x.tax(0, 0, 999), 999);

@@ -247,6 +247,14 @@ public final class LinesTest {
         for (int what = 0; what < 4; what++) {
             C.is("the other way about " + what, x.habit(1, 0, what), other[what]);
         }
+        WindowRoll y = town();
+        y.make(1, 0, 1);
+        y.walk(0, 0);
+        y.make(1, 0, 0);
+        y.walk(1, 0);
+        for (int what = 0; what < 4; what++) {
+            C.is("of one, below 0 " + what, y.habit(0, 1, what), what == 1 ? 1 : -1);
+        }
         C.is("of none", x.habit(0, 2, 3), 0);
         C.is("of none", x.habit(3, 2, 2), 0);
     }
