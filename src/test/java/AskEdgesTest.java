@@ -149,6 +149,22 @@ public final class AskEdgesTest {
         answers(x, 3, "sum count", 0, 1 + 9 + 2 + 1000, 5);
     }
 
+    /** Term VIII: this YEAR's LINES are asked of, too, and those of the last HOUSE in the last YEAR. */
+    private static void term8ThisYear() {
+        WindowRoll x = new WindowRoll();
+        for (int h = 0; h < 16; h++) {
+            x.house(h / 8, h, 1, 1);
+        }
+        x.walk(0, 0);
+        answers(x, 0, "number by year", 0, 8, 8);
+        Checks.go(x, 99);
+        x.walk(0, 1);
+        x.late(15, 0, 7);
+        answers(x, 99, "number by year", 0, 9, 9, 99, 8, 8);
+        answers(x, 99, "sum count where house=15 by year", 0, 7, 1, 99, 0, 1);
+        answers(x, 98, "number", 0, 8, 8);
+    }
+
     /** Term VIII: key "0 without" a NAME; no key at all if there is none for which the CONDS hold. */
     private static void term8NoKey() {
         WindowRoll x = asked();

@@ -266,6 +266,11 @@ public final class CourtEdgesTest {
         C.is("one is", x.nearest(0, 0), 1);
         x.overrule(1);
         C.is("it stands no more", x.nearest(0, 0), -1);
+        C.is("none of 60", Towns.FULL.make().nearest(1, 0), -1);
+        for (int c = 2; c < 60; c++) {
+            x.held(0, 1, 0, false, false, true);
+        }
+        C.is("the 60th", x.nearest(0, 0), 59);
     }
 
     /** Promise 22: "-2: there is no such OPENING"; one of a HOUSE that is DOWN is there. */

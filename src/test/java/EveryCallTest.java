@@ -170,6 +170,17 @@ public final class EveryCallTest {
         }
     }
 
+    /** "At most 512 calls": texts that are as long as can be, each read anew. */
+    private static void callsOfLongTexts() {
+        WindowRoll x = new WindowRoll();
+        x.house(0, 0, 1, 1);
+        x.walk(0, 0);
+        for (int text = 0; text < 27; text++) {
+            C.is("ask", Checks.ask(x, 0, "sum " + "1+".repeat(140) + text), 1);
+            C.is("answer", x.answer(0, 1), 140 + text);
+        }
+    }
+
     /** "At most 512 calls": rows that are laid, MATCHED and torn. */
     private static void callsOfRow() {
         WindowRoll x = new WindowRoll();

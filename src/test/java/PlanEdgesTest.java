@@ -423,6 +423,16 @@ public final class PlanEdgesTest {
         C.is("by year", Checks.beside(x, 2, 0, "from 1 pay year"), 2);
     }
 
+    /** Promise 38: what 1: TAX "in all YEARS", each by its year. */
+    private static void promise38AllYears() {
+        WindowRoll x = Checks.oneRoom(12);
+        Checks.go(x, 5);
+        C.is("from YEAR 5 on", Checks.beside(x, 3, 1, "from 1 pay year"), 5 + 6 + 7);
+        C.is("WEIGHTS from YEAR 5 on", Checks.beside(x, 3, 1, "counts year;from 1 pay 1"), 5 + 6 + 7);
+        C.is("bricked in YEAR 7", Checks.beside(x, 3, 1, "from 1 pay 1;from 1 pay 100 when year=7"), 2);
+        C.is("YEARS behind 99", Checks.beside(Towns.CENTURY.make(), 3, 4, "from 1 pay year"), 99 + 100 + 101);
+    }
+
     /** Promise 38: what 2 and 3: OPENINGS open and light "in the last one". */
     private static void promise38Last() {
         WindowRoll x = Checks.oneRoom(10, 1, 12);
@@ -446,6 +456,9 @@ public final class PlanEdgesTest {
         C.is("one is open", Checks.beside(x, 10, 4, "from 1 pay 1000*1000*1000"), 10000000000L);
         C.is("one is open", Checks.beside(x, 1, 4, "from 1 pay 7"), 7);
         C.is("by year", Checks.beside(x, 3, 4, "from 1 pay year*year"), 5);
+        Checks.go(x, 5);
+        C.is("from YEAR 5 on", Checks.beside(x, 3, 4, "from 1 pay year*year"), 25 + 36 + 49);
+        C.is("WEIGHTS from YEAR 5 on", Checks.beside(x, 3, 4, "counts year;from 1 pay 1"), 5 + 6 + 7);
     }
 
     /** Promise 38: "each HOUSE that is not DOWN by itself". */

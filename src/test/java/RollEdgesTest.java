@@ -179,6 +179,13 @@ public final class RollEdgesTest {
         C.is("16 of 31 minutes", x.route(2, 496), 65535);
         C.is("a minute less", x.route(2, 495), 65534);
         C.is("500 minutes", x.route(2, 500), 65535);
+        x = gains(new int[] {20, 9}, new int[] {60, 3}, new int[] {60, 4}, new int[] {60, 5}, new int[] {60, 6},
+            new int[] {60, 7}, new int[] {60, 8}, new int[] {60, 9}, new int[] {60, 10}, new int[] {60, 11});
+        C.is("just 500 minutes", x.route(0, 500), 1023 - 2);
+        C.is("499 minutes", x.route(0, 499), 1023 - 2 - 4);
+        x = gains(new int[] {19, 9}, new int[] {60, 3}, new int[] {60, 4}, new int[] {60, 5}, new int[] {60, 6},
+            new int[] {60, 7}, new int[] {60, 8}, new int[] {60, 9}, new int[] {60, 10});
+        C.is("just 499 minutes", x.route(0, 499), 511);
     }
 
     /** Term VI: as the YEAR goes by "each least HOUSE under a roof pays TAX" of all under it together. */
@@ -505,6 +512,34 @@ public final class RollEdgesTest {
         }
         C.is("the last YEAR", Towns.CENTURY.make().roll(0, 0, 99, 0), 1);
         C.is("none behind it", Towns.CENTURY.make().roll(0, 0, 100, 0), -1);
+    }
+
+    /** Promise 31: the last HOUSE in the last YEAR, and each in the first and the last one. */
+    private static void promise31Corners() {
+        WindowRoll x = new WindowRoll();
+        for (int h = 0; h < 16; h++) {
+            x.house(0, 0, 1, 1);
+        }
+        Checks.go(x, 99);
+        for (int h = 0; h < 16; h++) {
+            x.late(h, 0, 100 + h);
+            x.late(h, 98, 900 + h);
+        }
+        C.is("walk", x.walk(0, 0), 16);
+        x.terms(0, 0, 0, 20);
+        for (int h = 0; h < 16; h++) {
+            C.is("YEAR 0 of " + h, x.roll(h, 0, 99, 0), 100 + h);
+            C.is("YEAR 98 of " + h, x.roll(h, 98, 99, 0), 900 + h);
+            C.is("YEAR 99 of " + h, x.roll(h, 99, 99, 0), 0);
+            C.is("no YEAR together of " + h, x.span(h, 0, 99, 0), -7);
+        }
+        C.is("habit", x.walk(1, 0), 16);
+        C.is("of all", x.habit(0, 1, 1), 16);
+        for (int h = 0; h < 16; h++) {
+            x.late(h, 98, 19);
+            C.is("together of " + h, x.span(h, 99, 99, 1), 0);
+            C.is("together of " + h, x.span(h, 97, 99, 1), 39);
+        }
     }
 
     /** Promise 31: what 0 COUNT, 1 how (0 walk, 1 look, 2 late), 2 collector (NONE), 3 when. */

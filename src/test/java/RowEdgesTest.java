@@ -65,6 +65,30 @@ public final class RowEdgesTest {
         matched(of(1, 9), of(9), 1, 1, -1, 0);
         matched(of(9), of(1, 9), 1, 1, 1);
         matched(of(4, 8, 2), of(2, 4, 8), 1, 2, 1, 2, -1);
+        matched(of(5, 1, 9), of(5, 9, 1), 1, 2, 0, -1, 1);
+        matched(of(5, 6, 1, 9, 7), of(5, 6, 9, 1, 7), 1, 2, 0, 1, -1, 2, 4);
+    }
+
+    /** Term IX: rows of 60 whose gaps lie apart, so that the way through both is as long as it can be. */
+    private static void term9Long() {
+        long[] first = new long[60];
+        long[] second = new long[60];
+        int[] with = new int[60];
+        for (int i = 0; i < 60; i++) {
+            first[i] = i == 0 ? 7777 : i <= 40 ? 3000 : 9000;
+            second[i] = i < 40 ? 1 : i == 40 ? 7777 : 9000;
+            with[i] = i == 0 ? 40 : i <= 40 ? -1 : i;
+        }
+        matched(first, second, 1, 80, with);
+        for (int i = 0; i < 60; i++) {
+            first[i] = i == 0 ? 7777 : 3000;
+            second[i] = i == 59 ? 7777 : 1;
+            with[i] = i == 0 ? 59 : -1;
+        }
+        matched(first, second, 1, 118, with);
+        java.util.Arrays.fill(with, -1);
+        with[59] = 0;
+        matched(second, first, 1, 118, with);
     }
 
     /** Term IX: gaps that cost nothing: equal numbers go together, but a gap in the first row comes ahead of one behind. */

@@ -252,6 +252,23 @@ public final class TextEdgesTest {
         act("from 1 pay lattice+kind", -1);
     }
 
+    /** Term II: a word that is another one by its first or its last letter is none of those that can stand. */
+    private static void term2OtherWords() {
+        String text = "from 1 pay worth when not(count=1)or kind<1 and floor>1;from 1 add lesser(year,street)"
+            + ";counts greater(panes,back);part families*rooms+openings-lattice;spare;apart";
+        act(text, -1);
+        for (int at = 0; at < text.length(); at++) {
+            boolean letter = Character.isLetter(text.charAt(at));
+            if (letter) {
+                int begin = at;
+                while (begin > 0 && Character.isLetter(text.charAt(begin - 1))) {
+                    begin--;
+                }
+                act(text.substring(0, at) + 'x' + text.substring(at + 1), begin);
+            }
+        }
+    }
+
     /** Term II: "numbers (digits)": 0 to 9. */
     private static void term2Digits() {
         act("part 0123456789/1", 5);
@@ -301,6 +318,9 @@ public final class TextEdgesTest {
         act("from 1 part 1", 7);
         act("from 1 pay", 10);
         act("from 1 add", 10);
+        act("from 1 1", 7);
+        act("from 1 worth", 7);
+        act("from 1 (1)", 7);
         act("from (1) pay 1", 5);
         act("from worth pay 1", 5);
         act("counts", 6);
@@ -492,7 +512,16 @@ public final class TextEdgesTest {
     /** Term II: the parentheses of each RULE, and of what is ASKED, are counted by themselves. */
     private static void term2ParenthesesAgain() {
         String eight = "(".repeat(8) + "1" + ")".repeat(8);
-        act("part " + eight + " when " + eight + "=" + eight + ";part " + eight, -1);
+        for (String rule : new String[] {"from 1 pay ", "from 1 add ", "counts ", "part "}) {
+            act(rule + eight, -1);
+            act(rule + "(" + eight + ")", rule.length() + 8);
+            act(rule + eight + " when " + eight + "=" + eight + ";" + rule + eight, -1);
+        }
+        for (String rule : new String[] {"from 1 pay 1", "from 1 add 1", "counts 1", "part 1", "spare", "apart"}) {
+            act(rule + " when " + eight + "=" + eight + " or " + eight + "=1 and not(" + eight.substring(1, 16) + "=1)", -1);
+            act(rule + " when (" + eight + ")=1", rule.length() + 6 + 8);
+            act(rule + " when 1=(" + eight + ")", rule.length() + 8 + 8);
+        }
         ask("sum " + eight + " where " + eight + "<" + eight + " and not(1=1)", -1);
         ask("sum (" + eight + ")", 4 + 8);
         ask("number where (" + eight + ")=1", 13 + 8);
