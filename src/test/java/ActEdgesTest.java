@@ -380,15 +380,9 @@ public final class ActEdgesTest {
 
     /** Promise 14: "-2: something is not as told". */
     private static void promise14Refused() {
-        for (int house : Checks.beyond(0, 3)) {
-            C.refused(Towns.TOWN, "HOUSE " + house, x -> x.weight(house, 0, 0), -2);
-        }
-        for (int opening : Checks.beyond(0, 3)) {
-            C.refused(Towns.TOWN, "OPENING " + opening, x -> x.weight(0, opening, 0), -2);
-        }
-        for (int year : Checks.beyond(0, 99)) {
-            C.refused(Towns.TOWN, "YEAR " + year, x -> x.weight(0, 0, year), -2);
-        }
+        C.beyond(Towns.TOWN, "HOUSE", 0, 3, (x, house) -> x.weight(house, 0, 0), -2);
+        C.beyond(Towns.TOWN, "OPENING", 0, 3, (x, opening) -> x.weight(0, opening, 0), -2);
+        C.beyond(Towns.TOWN, "YEAR", 0, 99, (x, year) -> x.weight(0, 0, year), -2);
     }
 
     /** Promise 15: what is open (0), seen (1), open or boarded (2): each of the six ways an OPENING can be. */
@@ -422,15 +416,9 @@ public final class ActEdgesTest {
 
     /** Promise 15: "-2: something is not as told". */
     private static void promise15Refused() {
-        for (int house : Checks.beyond(0, 3)) {
-            C.refused(Towns.TOWN, "HOUSE " + house, x -> x.counted(house, 0, 0), -2);
-        }
-        for (int year : Checks.beyond(0, 99)) {
-            C.refused(Towns.TOWN, "YEAR " + year, x -> x.counted(0, year, 0), -2);
-        }
-        for (int what : Checks.beyond(0, 2)) {
-            C.refused(Towns.TOWN, "what " + what, x -> x.counted(0, 0, what), -2);
-        }
+        C.beyond(Towns.TOWN, "HOUSE", 0, 3, (x, house) -> x.counted(house, 0, 0), -2);
+        C.beyond(Towns.TOWN, "YEAR", 0, 99, (x, year) -> x.counted(0, year, 0), -2);
+        C.beyond(Towns.TOWN, "what", 0, 2, (x, what) -> x.counted(0, 0, what), -2);
     }
 
     /** Promise 16: "for a COUNT (0 .. 1000)", whatever the HOUSE has. */
@@ -462,15 +450,9 @@ public final class ActEdgesTest {
 
     /** Promise 16: "-2: something is not as told". */
     private static void promise16Refused() {
-        for (int house : Checks.beyond(0, 3)) {
-            C.refused(Towns.TOWN, "HOUSE " + house, x -> x.tax(house, 0, 1), -2);
-        }
-        for (int year : Checks.beyond(0, 99)) {
-            C.refused(Towns.TOWN, "YEAR " + year, x -> x.tax(0, year, 1), -2);
-        }
-        for (int count : Checks.beyond(0, 1000)) {
-            C.refused(Towns.TOWN, "COUNT " + count, x -> x.tax(0, 0, count), -2);
-        }
+        C.beyond(Towns.TOWN, "HOUSE", 0, 3, (x, house) -> x.tax(house, 0, 1), -2);
+        C.beyond(Towns.TOWN, "YEAR", 0, 99, (x, year) -> x.tax(0, year, 1), -2);
+        C.beyond(Towns.TOWN, "COUNT", 0, 1000, (x, count) -> x.tax(0, 0, count), -2);
     }
 
     /** Promise 17: "if all COUNTS were those of what is open", by this YEAR's ACT. */
@@ -508,9 +490,7 @@ public final class ActEdgesTest {
         x.down(0);
         C.is("DOWN", x.due(0), 0);
         C.is("DOWN", Towns.TOWN.make().due(3), 0);
-        for (int house : Checks.beyond(0, 3)) {
-            C.refused(Towns.TOWN, "HOUSE " + house, y -> y.due(house), -2);
-        }
+        C.beyond(Towns.TOWN, "HOUSE", 0, 3, (y, house) -> y.due(house), -2);
     }
 
     /** Promise 39: how many HOUSES "that are not DOWN (by themselves, of what is open) have a COUNT". */

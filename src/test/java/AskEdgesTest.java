@@ -261,12 +261,8 @@ public final class AskEdgesTest {
         for (int known = 0; known < 4; known++) {
             C.is("YEAR " + known, Checks.ask(asked(), known, "number"), 1);
         }
-        for (int known : Checks.beyond(0, 2)) {
-            C.refused(Towns.TOWN, "YEAR " + known, x -> x.ask(known), -2);
-        }
-        for (int known : Checks.beyond(0, 99)) {
-            C.refused(Towns.CENTURY, "YEAR " + known, x -> x.ask(known), -2);
-        }
+        C.beyond(Towns.TOWN, "YEAR", 0, 2, (x, known) -> x.ask(known), -2);
+        C.beyond(Towns.CENTURY, "YEAR", 0, 99, (x, known) -> x.ask(known), -2);
         C.is("YEAR 99", Checks.ask(Towns.CENTURY.make(), 99, "number"), 1);
     }
 

@@ -3,6 +3,7 @@ import java.lang.reflect.Modifier;
 import java.nio.charset.StandardCharsets;
 import java.util.Arrays;
 import java.util.Comparator;
+import java.util.function.ToLongBiFunction;
 import java.util.function.ToLongFunction;
 
 /** What the tests share: answers compared with those that are due, and texts put on the TAPE. */
@@ -53,6 +54,13 @@ final class Checks {
     /** A call that is refused: its answer is due, and nothing that any call tells is other than without it. */
     void refused(Towns town, String call, ToLongFunction<WindowRoll> done, long due) {
         refused(town, call, done, due, false);
+    }
+
+    /** A call that is refused for one argument, with each of the numbers beyond those that are allowed for it. */
+    void beyond(Towns town, String name, int least, int greatest, ToLongBiFunction<WindowRoll, Integer> done, long due) {
+        for (int none : beyond(least, greatest)) {
+            refused(town, name + " " + none, x -> done.applyAsLong(x, none), due);
+        }
     }
 
     /** A call that is refused for a FAULT: the TAPE is empty and fault() may be another one, all else stays. */

@@ -204,9 +204,7 @@ public final class CourtEdgesTest {
             C.is("KIND " + kind, x.held(kind, 1, 0, false, false, true), 0);
             C.is("KIND " + kind, x.heldOf(0, 0), kind);
         }
-        for (int kind : Checks.beyond(0, 3)) {
-            C.refused(Towns.TOWN, "KIND " + kind, x -> x.held(kind, 1, 0, false, false, true), -2);
-        }
+        C.beyond(Towns.TOWN, "KIND", 0, 3, (x, kind) -> x.held(kind, 1, 0, false, false, true), -2);
     }
 
     /** Promise 21: "panes (1 .. 30)". */
@@ -216,9 +214,7 @@ public final class CourtEdgesTest {
             C.is("panes " + panes, x.held(0, panes, 0, false, false, true), 0);
             C.is("panes " + panes, x.heldOf(0, 1), panes);
         }
-        for (int panes : Checks.beyond(1, 30)) {
-            C.refused(Towns.TOWN, "panes " + panes, x -> x.held(0, panes, 0, false, false, true), -2);
-        }
+        C.beyond(Towns.TOWN, "panes", 1, 30, (x, panes) -> x.held(0, panes, 0, false, false, true), -2);
     }
 
     /** Promise 21: "floor" is 0 .. 5. */
@@ -228,9 +224,7 @@ public final class CourtEdgesTest {
             C.is("floor " + floor, x.held(0, 1, floor, false, false, true), 0);
             C.is("floor " + floor, x.heldOf(0, 2), floor);
         }
-        for (int floor : Checks.beyond(0, 5)) {
-            C.refused(Towns.TOWN, "floor " + floor, x -> x.held(0, 1, floor, false, false, true), -2);
-        }
+        C.beyond(Towns.TOWN, "floor", 0, 5, (x, floor) -> x.held(0, 1, floor, false, false, true), -2);
     }
 
     /** Promise 21: "it is a window, or none": nobody is EXCUSED by that alone. */
@@ -275,24 +269,16 @@ public final class CourtEdgesTest {
 
     /** Promise 22: "-2: there is no such OPENING"; one of a HOUSE that is DOWN is there. */
     private static void promise22Refused() {
-        for (int house : Checks.beyond(0, 3)) {
-            C.refused(Towns.TOWN, "HOUSE " + house, x -> x.nearest(house, 0), -2);
-        }
-        for (int opening : Checks.beyond(0, 3)) {
-            C.refused(Towns.TOWN, "OPENING " + opening, x -> x.nearest(0, opening), -2);
-        }
+        C.beyond(Towns.TOWN, "HOUSE", 0, 3, (x, house) -> x.nearest(house, 0), -2);
+        C.beyond(Towns.TOWN, "OPENING", 0, 3, (x, opening) -> x.nearest(0, opening), -2);
         C.refused(Towns.FULL, "a HOUSE without OPENINGS", x -> x.nearest(0, 0), -2);
         C.is("DOWN", Towns.TOWN.make().nearest(3, 0), 3);
     }
 
     /** Promise 23: "-2: there is no such OPENING, the HOUSE is DOWN". */
     private static void promise23Refused() {
-        for (int house : Checks.beyond(0, 3)) {
-            C.refused(Towns.TOWN, "HOUSE " + house, x -> x.appeal(house, 0), -2);
-        }
-        for (int opening : Checks.beyond(0, 3)) {
-            C.refused(Towns.TOWN, "OPENING " + opening, x -> x.appeal(0, opening), -2);
-        }
+        C.beyond(Towns.TOWN, "HOUSE", 0, 3, (x, house) -> x.appeal(house, 0), -2);
+        C.beyond(Towns.TOWN, "OPENING", 0, 3, (x, opening) -> x.appeal(0, opening), -2);
         C.refused(Towns.TOWN, "DOWN", x -> x.appeal(3, 0), -2);
         C.refused(Towns.FULL, "none such, and 60 CASES", x -> x.appeal(0, 0), -2);
     }
@@ -338,13 +324,9 @@ public final class CourtEdgesTest {
 
     /** Promise 24: "-2: there is none such, or it does not stand". */
     private static void promise24Refused() {
-        for (int held : Checks.beyond(0, 4)) {
-            C.refused(Towns.TOWN, "CASE " + held, x -> x.overrule(held), -2);
-        }
+        C.beyond(Towns.TOWN, "CASE", 0, 4, (x, held) -> x.overrule(held), -2);
         C.refused(Towns.TOWN, "one that fell", x -> x.overrule(4), -2);
-        for (int held : Checks.beyond(0, 59)) {
-            C.refused(Towns.FULL, "CASE " + held, x -> x.overrule(held), -2);
-        }
+        C.beyond(Towns.FULL, "CASE", 0, 59, (x, held) -> x.overrule(held), -2);
         WindowRoll x = Checks.oneRoom(1);
         x.appeal(0, 0);
         x.appeal(0, 0);
@@ -371,9 +353,7 @@ public final class CourtEdgesTest {
 
     /** Promise 25: "-2 for others". */
     private static void promise25Refused() {
-        for (int what : Checks.beyond(0, 7)) {
-            C.refused(Towns.TOWN, "what " + what, x -> x.heldOf(0, what), -2);
-        }
+        C.beyond(Towns.TOWN, "what", 0, 7, (x, what) -> x.heldOf(0, what), -2);
         for (int what = 0; what < 8; what++) {
             for (int held : Checks.beyond(0, 4)) {
                 C.is("CASE " + held, Towns.TOWN.make().heldOf(held, what), -2);

@@ -220,8 +220,10 @@ public final class EveryCallTest {
         makes("route, roll, span, habit", x -> x.roll(x.route(0, 500), x.span(0, 0, 0, 0), x.habit(0, 1, 0), 0), 30_000);
         makes("ask, answer", x -> x.answer(x.ask(0), x.feed(0x6e756d62, 0x65722020, 0x20202020, 0, 0)), 10_000);
         makes("match, matched", x -> x.matched(x.match(0, 1, 1)), 40_000);
-        makes("beside", x -> x.beside(10, x.feed(0x61706172, 0x74202020, 0x20202020, 0x20202020, 0x20202020) / 20), 300_000);
-        makes("row, write, paste, tear", x -> x.tear(x.row(1, 1, 60) + x.write(1, 0, 1) + x.paste(1, 0, 1, 1, 9)), 10_000);
+        makes("beside", x -> x.beside(10, x.feed(0x61706172, 0x74202020, 0x20202020, 0x20202020, 0x20202020) / 20),
+            300_000);
+        makes("row, write, paste, tear", x -> x.tear(x.row(1, 1, 60) + x.write(1, 0, 1) + x.paste(1, 0, 1, 1, 9)),
+            10_000);
     }
 
     private static void makes(String calls, Consumer<WindowRoll> done, long most) {

@@ -6,6 +6,50 @@ public final class HouseEdgesTest {
         C.runAll(HouseEdgesTest.class);
     }
 
+    /** Term I: "YEARS go from 0 on, to 99". */
+    private static void term1Years() {
+        WindowRoll x = Checks.oneRoom(1);
+        C.is("the first", x.count(0), 0);
+        Checks.act(x, 0, "counts 2");
+        C.is("the first", x.weight(0, 0, 0), 2);
+        C.is("the last", x.weight(0, 0, 99), 2);
+        Checks.go(x, 120);
+        C.is("the last", x.count(0), 99);
+        C.is("what can be done in it", x.walk(0, 0), 1);
+        C.is("the last", x.roll(0, 99, 99, 0), 2);
+    }
+
+    /** Term I: HOUSES have "ROOMS 0 .. (6 at most)", each with a KIND and a floor of its own. */
+    private static void term1Rooms() {
+        WindowRoll x = new WindowRoll();
+        x.house(0, 0, 1, 1);
+        for (int r = 0; r < 6; r++) {
+            C.is("ROOM " + r, Checks.room(x, 0, r % 4, r, 1), r);
+        }
+        for (int o = 0; o < 6; o++) {
+            C.is("the ROOM", x.opening(0, o, 0), o);
+            C.is("its KIND", x.opening(0, o, 3), o % 4);
+            C.is("its floor", x.opening(0, o, 2), o);
+        }
+        C.is("ROOMS", x.houseOf(0, 4), 6);
+        C.is("a 7th", Checks.room(x, 0, 0, 0, 1), -3);
+    }
+
+    /** Term I: OPENINGS are "open, bricked or boarded; EXCUSED or not", the one whatever the other. */
+    private static void term1StateAndExcuse() {
+        WindowRoll x = Checks.oneRoom(1);
+        x.held(0, 1, 0, false, false, false);
+        for (int state = 0; state < 3; state++) {
+            x.make(0, 0, state);
+            C.is("EXCUSED", x.appeal(0, 0), 1);
+            C.is("the state stays", x.opening(0, 0, 6), state);
+            x.make(0, 0, (state + 1) % 3);
+            C.is("EXCUSED stays", x.opening(0, 0, 7), state + 1);
+            x.overrule(state + 1);
+            C.is("the state stays", x.opening(0, 0, 6), (state + 1) % 3);
+        }
+    }
+
     /** Term I: "HOUSES 0 .., 16 at most". */
     private static void term1Houses() {
         WindowRoll x = new WindowRoll();
@@ -195,9 +239,7 @@ public final class HouseEdgesTest {
             C.is("light " + light, x.light(0, light, 200), 0);
             C.is("LIGHT " + light, x.houseOf(0, 7), 10 * light);
         }
-        for (int light : Checks.beyond(0, 50)) {
-            C.refused(Towns.TOWN, "LIGHT " + light, x -> x.light(1, light, 20), -2);
-        }
+        C.beyond(Towns.TOWN, "LIGHT", 0, 50, (x, light) -> x.light(1, light, 20), -2);
     }
 
     /** Promise 2: "ENOUGH (0 .. 200)". */
@@ -207,9 +249,7 @@ public final class HouseEdgesTest {
             C.is("enough " + enough, x.light(0, 1, enough), 0);
             C.is("ENOUGH " + enough, x.houseOf(0, 7), enough);
         }
-        for (int enough : Checks.beyond(0, 200)) {
-            C.refused(Towns.TOWN, "ENOUGH " + enough, x -> x.light(1, 5, enough), -2);
-        }
+        C.beyond(Towns.TOWN, "ENOUGH", 0, 200, (x, enough) -> x.light(1, 5, enough), -2);
     }
 
     /** Promise 2: "of a KIND (0 .. 3)", and of no other one. */
@@ -223,9 +263,7 @@ public final class HouseEdgesTest {
             C.is("kind " + kind, x.light(kind, 40, 1), 0);
             C.is("of KIND " + kind + " alone", x.houseOf(0, 7), 40 + 3 * 6);
         }
-        for (int kind : Checks.beyond(0, 3)) {
-            C.refused(Towns.TOWN, "KIND " + kind, x -> x.light(kind, 5, 20), -2);
-        }
+        C.beyond(Towns.TOWN, "KIND", 0, 3, (x, kind) -> x.light(kind, 5, 20), -2);
     }
 
     /** Promise 3: "The costs of BRICKING" are 0 .. 1000. */
@@ -236,9 +274,7 @@ public final class HouseEdgesTest {
             C.is("terms", x.terms(cost, 7, 7, 7), 0);
             C.is("BRICKING " + cost, x.plan(0, 1), -cost);
         }
-        for (int cost : Checks.beyond(0, 1000)) {
-            C.refused(Towns.TOWN, "BRICKING " + cost, x -> x.terms(cost, 15, 6, 9), -2);
-        }
+        C.beyond(Towns.TOWN, "BRICKING", 0, 1000, (x, cost) -> x.terms(cost, 15, 6, 9), -2);
     }
 
     /** Promise 3: the costs of "OPENING one (0 .. 1000)". */
@@ -250,9 +286,7 @@ public final class HouseEdgesTest {
             C.is("terms", x.terms(7, cost, 7, 7), 0);
             C.is("OPENING " + cost, x.plan(0, 1), 1500 - cost);
         }
-        for (int cost : Checks.beyond(0, 1000)) {
-            C.refused(Towns.TOWN, "OPENING " + cost, x -> x.terms(10, cost, 6, 9), -2);
-        }
+        C.beyond(Towns.TOWN, "OPENING", 0, 1000, (x, cost) -> x.terms(10, cost, 6, 9), -2);
     }
 
     /** Promise 3: "NEAR (0 .. 60)". */
@@ -266,9 +300,7 @@ public final class HouseEdgesTest {
         x.overrule(0);
         C.is("terms", x.terms(0, 0, 60, 0), 0);
         C.is("as far as can be", x.nearest(0, 0), 1);
-        for (int near : Checks.beyond(0, 60)) {
-            C.refused(Towns.TOWN, "NEAR " + near, y -> y.terms(10, 15, near, 9), -2);
-        }
+        C.beyond(Towns.TOWN, "NEAR", 0, 60, (y, near) -> y.terms(10, 15, near, 9), -2);
     }
 
     /** Promise 3: "MOVES (0 .. 20)". */
@@ -280,9 +312,7 @@ public final class HouseEdgesTest {
             C.is("terms", x.terms(0, 0, 0, moves), 0);
             C.is("MOVES " + moves, x.span(0, 1, 1, 1), 100 + moves);
         }
-        for (int moves : Checks.beyond(0, 20)) {
-            C.refused(Towns.TOWN, "MOVES " + moves, x -> x.terms(10, 15, 6, moves), -2);
-        }
+        C.beyond(Towns.TOWN, "MOVES", 0, 20, (x, moves) -> x.terms(10, 15, 6, moves), -2);
     }
 
     /** Promise 4: "-2: STREET is not 0 .. 3". */
@@ -291,9 +321,7 @@ public final class HouseEdgesTest {
         C.is("STREET 0", x.house(0, 5, 1, 1), 0);
         C.is("STREET 3", x.house(3, 5, 1, 1), 1);
         C.is("STREET 3", x.houseOf(1, 0), 3);
-        for (int street : Checks.beyond(0, 3)) {
-            C.refused(Towns.TOWN, "STREET " + street, y -> y.house(street, 5, 1, 1), -2);
-        }
+        C.beyond(Towns.TOWN, "STREET", 0, 3, (y, street) -> y.house(street, 5, 1, 1), -2);
     }
 
     /** Promise 4: -2: "WORTH not 0 .. 10000". */
@@ -303,9 +331,7 @@ public final class HouseEdgesTest {
         C.is("WORTH 10000", x.house(0, 10000, 1, 1), 1);
         C.is("WORTH 0", x.houseOf(0, 1), 0);
         C.is("WORTH 10000", x.houseOf(1, 1), 10000);
-        for (int worth : Checks.beyond(0, 10000)) {
-            C.refused(Towns.TOWN, "WORTH " + worth, y -> y.house(0, worth, 1, 1), -2);
-        }
+        C.beyond(Towns.TOWN, "WORTH", 0, 10000, (y, worth) -> y.house(0, worth, 1, 1), -2);
     }
 
     /** Promise 4: -2: "FAMILIES not 1 .. 9". */
@@ -315,9 +341,7 @@ public final class HouseEdgesTest {
         C.is("FAMILIES 9", x.house(0, 0, 9, 1), 1);
         C.is("FAMILIES 1", x.houseOf(0, 2), 1);
         C.is("FAMILIES 9", x.houseOf(1, 2), 9);
-        for (int families : Checks.beyond(1, 9)) {
-            C.refused(Towns.TOWN, "FAMILIES " + families, y -> y.house(0, 0, families, 1), -2);
-        }
+        C.beyond(Towns.TOWN, "FAMILIES", 1, 9, (y, families) -> y.house(0, 0, families, 1), -2);
     }
 
     /** Promise 4: -2: "MINUTES not 1 .. 60". */
@@ -327,9 +351,7 @@ public final class HouseEdgesTest {
         C.is("MINUTES 60", x.house(0, 0, 1, 60), 1);
         C.is("MINUTES 1", x.houseOf(0, 3), 1);
         C.is("MINUTES 60", x.houseOf(1, 3), 60);
-        for (int minutes : Checks.beyond(1, 60)) {
-            C.refused(Towns.TOWN, "MINUTES " + minutes, y -> y.house(0, 0, 1, minutes), -2);
-        }
+        C.beyond(Towns.TOWN, "MINUTES", 1, 60, (y, minutes) -> y.house(0, 0, 1, minutes), -2);
     }
 
     /** Promise 4: "-3: there are 16"; -2 is told ahead of it; one that is DOWN is there, too. */
@@ -343,9 +365,7 @@ public final class HouseEdgesTest {
 
     /** Promise 5: -2: "there is no such HOUSE (or it is DOWN)". */
     private static void promise5House() {
-        for (int house : Checks.beyond(0, 3)) {
-            C.refused(Towns.TOWN, "HOUSE " + house, x -> x.room(house, 0, 0, 0), -2);
-        }
+        C.beyond(Towns.TOWN, "HOUSE", 0, 3, (x, house) -> x.room(house, 0, 0, 0), -2);
         C.refused(Towns.TOWN, "DOWN", x -> x.room(3, 0, 0, 0), -2);
     }
 
@@ -357,9 +377,7 @@ public final class HouseEdgesTest {
             C.is("KIND " + kind, Checks.room(x, 0, kind, 0, 1), 0);
             C.is("KIND " + kind, x.opening(0, 0, 3), kind);
         }
-        for (int kind : Checks.beyond(0, 3)) {
-            C.refused(Towns.TOWN, "KIND " + kind, x -> x.room(0, kind, 0, 0), -2);
-        }
+        C.beyond(Towns.TOWN, "KIND", 0, 3, (x, kind) -> x.room(0, kind, 0, 0), -2);
     }
 
     /** Promise 5: "on a floor (0 .. 5)". */
@@ -370,16 +388,12 @@ public final class HouseEdgesTest {
             C.is("floor " + floor, Checks.room(x, 0, 0, floor, 1), 0);
             C.is("floor " + floor, x.opening(0, 0, 2), floor);
         }
-        for (int floor : Checks.beyond(0, 5)) {
-            C.refused(Towns.TOWN, "floor " + floor, x -> x.room(0, 0, floor, 0), -2);
-        }
+        C.beyond(Towns.TOWN, "floor", 0, 5, (x, floor) -> x.room(0, 0, floor, 0), -2);
     }
 
     /** Promise 5: -2: no such "PLACE"; "-5: the PLACE has nothing". */
     private static void promise5Place() {
-        for (int place : Checks.beyond(0, 3)) {
-            C.refused(Towns.TOWN, "PLACE " + place, x -> x.room(0, 0, 0, place), -2);
-        }
+        C.beyond(Towns.TOWN, "PLACE", 0, 3, (x, place) -> x.room(0, 0, 0, place), -2);
         C.refused(Towns.TOWN, "nothing", x -> x.room(0, 0, 0, 3), -5);
         C.refused(Towns.TOWN, "nothing, and no such KIND", x -> x.room(0, 4, 0, 3), -2);
         C.refused(Towns.FULL, "nothing, and 6 ROOMS", x -> x.room(0, 0, 0, 1), -5);
@@ -483,15 +497,9 @@ public final class HouseEdgesTest {
 
     /** Promise 6: "-2: there is none such, no such state, the HOUSE is DOWN". */
     private static void promise6Refused() {
-        for (int house : Checks.beyond(0, 3)) {
-            C.refused(Towns.TOWN, "HOUSE " + house, x -> x.make(house, 0, 1), -2);
-        }
-        for (int opening : Checks.beyond(0, 3)) {
-            C.refused(Towns.TOWN, "OPENING " + opening, x -> x.make(0, opening, 1), -2);
-        }
-        for (int state : Checks.beyond(0, 2)) {
-            C.refused(Towns.TOWN, "state " + state, x -> x.make(0, 0, state), -2);
-        }
+        C.beyond(Towns.TOWN, "HOUSE", 0, 3, (x, house) -> x.make(house, 0, 1), -2);
+        C.beyond(Towns.TOWN, "OPENING", 0, 3, (x, opening) -> x.make(0, opening, 1), -2);
+        C.beyond(Towns.TOWN, "state", 0, 2, (x, state) -> x.make(0, 0, state), -2);
         C.refused(Towns.TOWN, "DOWN", x -> x.make(3, 0, 1), -2);
         C.refused(Towns.FULL, "a HOUSE without OPENINGS", x -> x.make(0, 0, 1), -2);
     }
@@ -504,9 +512,7 @@ public final class HouseEdgesTest {
             C.is("WORTH", x.houseOf(0, 1), worth);
             C.is("another HOUSE's stays", x.houseOf(1, 1), 200);
         }
-        for (int worth : Checks.beyond(0, 10000)) {
-            C.refused(Towns.TOWN, "WORTH " + worth, x -> x.worth(0, worth, 5), -2);
-        }
+        C.beyond(Towns.TOWN, "WORTH", 0, 10000, (x, worth) -> x.worth(0, worth, 5), -2);
     }
 
     /** Promise 7: "FAMILIES (1 .. 9)". */
@@ -517,16 +523,12 @@ public final class HouseEdgesTest {
             C.is("FAMILIES", x.houseOf(0, 2), families);
             C.is("another HOUSE's stay", x.houseOf(1, 2), 3);
         }
-        for (int families : Checks.beyond(1, 9)) {
-            C.refused(Towns.TOWN, "FAMILIES " + families, x -> x.worth(0, 5, families), -2);
-        }
+        C.beyond(Towns.TOWN, "FAMILIES", 1, 9, (x, families) -> x.worth(0, 5, families), -2);
     }
 
     /** Promise 7: "of a HOUSE"; the document does not rule out one that is DOWN. */
     private static void promise7House() {
-        for (int house : Checks.beyond(0, 3)) {
-            C.refused(Towns.TOWN, "HOUSE " + house, x -> x.worth(house, 5, 5), -2);
-        }
+        C.beyond(Towns.TOWN, "HOUSE", 0, 3, (x, house) -> x.worth(house, 5, 5), -2);
         WindowRoll x = Towns.TOWN.make();
         C.is("DOWN", x.worth(3, 5, 6), 0);
         C.is("DOWN", x.houseOf(3, 1), 5);
@@ -616,9 +618,7 @@ public final class HouseEdgesTest {
 
     /** Promise 9: "false: none such, or it is". */
     private static void promise9Refused() {
-        for (int house : Checks.beyond(0, 3)) {
-            C.refused(Towns.TOWN, "HOUSE " + house, x -> x.down(house) ? 1 : 0, 0);
-        }
+        C.beyond(Towns.TOWN, "HOUSE", 0, 3, (x, house) -> x.down(house) ? 1 : 0, 0);
         C.refused(Towns.TOWN, "it is", x -> x.down(3) ? 1 : 0, 0);
     }
 
@@ -636,9 +636,7 @@ public final class HouseEdgesTest {
 
     /** Promise 40: "-2 for others". */
     private static void promise40Refused() {
-        for (int what : Checks.beyond(0, 9)) {
-            C.refused(Towns.TOWN, "what " + what, x -> x.houseOf(0, what), -2);
-        }
+        C.beyond(Towns.TOWN, "what", 0, 9, (x, what) -> x.houseOf(0, what), -2);
         for (int house : Checks.beyond(0, 3)) {
             for (int what = 0; what < 10; what++) {
                 C.is("HOUSE " + house, Towns.TOWN.make().houseOf(house, what), -2);
@@ -660,9 +658,7 @@ public final class HouseEdgesTest {
 
     /** Promise 41: "-2 for others". */
     private static void promise41Refused() {
-        for (int what : Checks.beyond(0, 7)) {
-            C.refused(Towns.TOWN, "what " + what, x -> x.opening(0, 3, what), -2);
-        }
+        C.beyond(Towns.TOWN, "what", 0, 7, (x, what) -> x.opening(0, 3, what), -2);
         for (int what = 0; what < 8; what++) {
             for (int opening : Checks.beyond(0, 3)) {
                 C.is("OPENING " + opening, Towns.TOWN.make().opening(0, opening, what), -2);

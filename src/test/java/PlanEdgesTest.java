@@ -164,9 +164,7 @@ public final class PlanEdgesTest {
 
     /** Promise 18: "-1000000: there is no such HOUSE, it is DOWN, another number". */
     private static void promise18Refused() {
-        for (int house : Checks.beyond(0, 3)) {
-            C.refused(Towns.TOWN, "HOUSE " + house, x -> x.plan(house, 3), -1000000);
-        }
+        C.beyond(Towns.TOWN, "HOUSE", 0, 3, (x, house) -> x.plan(house, 3), -1000000);
         for (int years : Checks.beyond(1, 10)) {
             C.refused(Towns.TOWN, years + " YEARS", x -> x.plan(0, years), -1000000);
         }
@@ -377,9 +375,7 @@ public final class PlanEdgesTest {
 
     /** Promise 38: "-2, and the TAPE stays: something is not as told": what is not 0 .. 4. */
     private static void promise38What() {
-        for (int what : Checks.beyond(0, 4)) {
-            C.refused(Towns.TOWN, "what " + what, x -> x.beside(1, what), -2);
-        }
+        C.beyond(Towns.TOWN, "what", 0, 4, (x, what) -> x.beside(1, what), -2);
     }
 
     /** Promise 38: "-4: it has a FAULT": the TAPE is empty then, as it always is when it was read. */

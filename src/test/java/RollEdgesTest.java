@@ -200,6 +200,26 @@ public final class RollEdgesTest {
         C.is("with the least one", x.paid(2), 0);
     }
 
+    /** Term VI: "of all under it together": more than any one COUNT can be. */
+    private static void term6PaysTogether() {
+        WindowRoll x = new WindowRoll();
+        for (int h = 0; h < 16; h++) {
+            x.house(0, 0, 1, 1);
+            x.roof(h, 0);
+        }
+        x.go();
+        for (int h = 0; h < 16; h++) {
+            x.late(h, 0, 1000);
+        }
+        Checks.act(x, 0, "from 9999 pay count");
+        C.is("16 times 1000", x.go(), 256000000);
+        C.is("the least one", x.paid(0), 256000000);
+        C.is("the last one", x.paid(15), 0);
+        x.down(0);
+        C.is("15 times 1000", x.go(), 225000000);
+        C.is("the next one", x.paid(1), 225000000);
+    }
+
     /** Term VI: "(each, if apart holds)": of the least one under the roof. */
     private static void term6PaysApart() {
         WindowRoll x = street();
@@ -403,9 +423,7 @@ public final class RollEdgesTest {
         for (int minutes : Checks.beyond(0, 500)) {
             C.refused(Towns.TOWN, minutes + " minutes", y -> y.route(0, minutes), -2);
         }
-        for (int street : Checks.beyond(0, 3)) {
-            C.refused(Towns.TOWN, "STREET " + street, y -> y.route(street, 100), -2);
-        }
+        C.beyond(Towns.TOWN, "STREET", 0, 3, (y, street) -> y.route(street, 100), -2);
     }
 
     /** Promise 28: by this YEAR's ACT; nothing changes. */
@@ -428,9 +446,7 @@ public final class RollEdgesTest {
         C.is("in YEAR 0 there is none", late(0, 0).late(0, 0, 5), -2);
         C.is("YEAR 98 in 99", Towns.CENTURY.make().late(0, 98, 5), 0);
         C.is("YEAR 99 in 99", Towns.CENTURY.make().late(0, 99, 5), -2);
-        for (int year : Checks.beyond(0, 1)) {
-            C.refused(Towns.TOWN, "YEAR " + year, y -> y.late(0, year, 5), -2);
-        }
+        C.beyond(Towns.TOWN, "YEAR", 0, 1, (y, year) -> y.late(0, year, 5), -2);
     }
 
     /** Promise 29: "so (0 .. 1000)". */
@@ -439,16 +455,12 @@ public final class RollEdgesTest {
             WindowRoll x = late(1, 0, 0, count);
             C.is("COUNT " + count, x.roll(0, 0, 1, 0), count);
         }
-        for (int count : Checks.beyond(0, 1000)) {
-            C.refused(Towns.TOWN, "COUNT " + count, x -> x.late(0, 0, count), -2);
-        }
+        C.beyond(Towns.TOWN, "COUNT", 0, 1000, (x, count) -> x.late(0, 0, count), -2);
     }
 
     /** Promise 29: "of a HOUSE"; one that is DOWN was there in a YEAR that has gone. */
     private static void promise29Houses() {
-        for (int house : Checks.beyond(0, 3)) {
-            C.refused(Towns.TOWN, "HOUSE " + house, x -> x.late(house, 0, 5), -2);
-        }
+        C.beyond(Towns.TOWN, "HOUSE", 0, 3, (x, house) -> x.late(house, 0, 5), -2);
         WindowRoll x = Towns.TOWN.make();
         C.is("DOWN", x.late(3, 0, 5), 0);
         C.is("DOWN", x.roll(3, 0, 2, 0), 5);
@@ -561,18 +573,10 @@ public final class RollEdgesTest {
     /** Promise 31: "NONE: nothing, or no such ones". */
     private static void promise31None() {
         C.refused(Towns.TOWN, "nothing", x -> x.roll(1, 2, 2, 0), -1);
-        for (int house : Checks.beyond(0, 3)) {
-            C.refused(Towns.TOWN, "HOUSE " + house, x -> x.roll(house, 0, 0, 0), -1);
-        }
-        for (int year : Checks.beyond(0, 99)) {
-            C.refused(Towns.TOWN, "YEAR " + year, x -> x.roll(0, year, 0, 0), -1);
-        }
-        for (int known : Checks.beyond(0, 2)) {
-            C.refused(Towns.TOWN, "known " + known, x -> x.roll(0, 0, known, 0), -1);
-        }
-        for (int what : Checks.beyond(0, 3)) {
-            C.refused(Towns.TOWN, "what " + what, x -> x.roll(0, 0, 0, what), -1);
-        }
+        C.beyond(Towns.TOWN, "HOUSE", 0, 3, (x, house) -> x.roll(house, 0, 0, 0), -1);
+        C.beyond(Towns.TOWN, "YEAR", 0, 99, (x, year) -> x.roll(0, year, 0, 0), -1);
+        C.beyond(Towns.TOWN, "known", 0, 2, (x, known) -> x.roll(0, 0, known, 0), -1);
+        C.beyond(Towns.TOWN, "what", 0, 3, (x, what) -> x.roll(0, 0, 0, what), -1);
         C.is("a YEAR to come", Towns.TOWN.make().roll(0, 99, 2, 0), -1);
     }
 
@@ -591,18 +595,10 @@ public final class RollEdgesTest {
     /** Promise 32: "NONE: nothing is on the ROLL, or no such ones". */
     private static void promise32None() {
         C.refused(Towns.TOWN, "nothing", x -> x.span(3, 0, 2, 0), -1);
-        for (int house : Checks.beyond(0, 3)) {
-            C.refused(Towns.TOWN, "HOUSE " + house, x -> x.span(house, 0, 2, 0), -1);
-        }
-        for (int year : Checks.beyond(0, 99)) {
-            C.refused(Towns.TOWN, "YEAR " + year, x -> x.span(0, year, 2, 0), -1);
-        }
-        for (int known : Checks.beyond(0, 2)) {
-            C.refused(Towns.TOWN, "known " + known, x -> x.span(0, 0, known, 0), -1);
-        }
-        for (int what : Checks.beyond(0, 1)) {
-            C.refused(Towns.TOWN, "what " + what, x -> x.span(0, 0, 2, what), -1);
-        }
+        C.beyond(Towns.TOWN, "HOUSE", 0, 3, (x, house) -> x.span(house, 0, 2, 0), -1);
+        C.beyond(Towns.TOWN, "YEAR", 0, 99, (x, year) -> x.span(0, year, 2, 0), -1);
+        C.beyond(Towns.TOWN, "known", 0, 2, (x, known) -> x.span(0, 0, known, 0), -1);
+        C.beyond(Towns.TOWN, "what", 0, 1, (x, what) -> x.span(0, 0, 2, what), -1);
         C.is("YEAR 99", Towns.TOWN.make().span(2, 99, 2, 0), 0);
     }
 
@@ -710,9 +706,7 @@ public final class RollEdgesTest {
         C.is("no more", x.paid(0), 30 * 99);
         x.down(0);
         C.is("DOWN", x.paid(0), 30 * 99);
-        for (int house : Checks.beyond(0, 3)) {
-            C.refused(Towns.TOWN, "HOUSE " + house, y -> y.paid(house), -2);
-        }
+        C.beyond(Towns.TOWN, "HOUSE", 0, 3, (y, house) -> y.paid(house), -2);
         C.is("DOWN", Towns.TOWN.make().paid(3), 0);
     }
 }

@@ -91,7 +91,7 @@ public final class RowEdgesTest {
         matched(second, first, 1, 118, with);
     }
 
-    /** Term IX: gaps that cost nothing: equal numbers go together, but a gap in the first row comes ahead of one behind. */
+    /** Term IX: gaps that cost nothing: a gap in the first row's number comes ahead of one in the second one's. */
     private static void term9NoCost() {
         matched(of(1, 2, 3, 4), of(9, 2, 4, 9), 0, 0, -1, -1, -1, -1);
         matched(of(1, 2, 3, 4), of(2, 4, 9), 0, 0, -1, 0, -1, 1);
@@ -167,9 +167,7 @@ public final class RowEdgesTest {
         for (int gap : new int[] {0, 1, 999, 1000}) {
             C.is("gap " + gap, rows(of(0), of()).match(0, 1, gap), gap);
         }
-        for (int gap : Checks.beyond(0, 1000)) {
-            C.refused(Towns.TOWN, "gap " + gap, x -> x.match(0, 1, gap), -2);
-        }
+        C.beyond(Towns.TOWN, "gap", 0, 1000, (x, gap) -> x.match(0, 1, gap), -2);
     }
 
     /** Promise 36: "-2: there are none such"; one PLACE may be both. */
@@ -263,9 +261,7 @@ public final class RowEdgesTest {
             C.is("town " + what, Towns.TOWN.make().count(what), town[what]);
             C.is("full " + what, Towns.FULL.make().count(what), full[what]);
         }
-        for (int what : Checks.beyond(0, 9)) {
-            C.refused(Towns.TOWN, "what " + what, x -> x.count(what), -1);
-        }
+        C.beyond(Towns.TOWN, "what", 0, 9, (x, what) -> x.count(what), -1);
     }
 
     /** Promise 43: "7 RULES of this YEAR's ACT", 0 ahead of all ACTS. */
@@ -302,12 +298,8 @@ public final class RowEdgesTest {
 
     /** Promise 44: "-2: there is no such PLACE or WIDTH, or n is above 60". */
     private static void promise44Refused() {
-        for (int place : Checks.beyond(0, 3)) {
-            C.refused(Towns.TOWN, "PLACE " + place, x -> x.row(place, 0, 5), -2);
-        }
-        for (int width : Checks.beyond(0, 3)) {
-            C.refused(Towns.TOWN, "WIDTH " + width, x -> x.row(0, width, 5), -2);
-        }
+        C.beyond(Towns.TOWN, "PLACE", 0, 3, (x, place) -> x.row(place, 0, 5), -2);
+        C.beyond(Towns.TOWN, "WIDTH", 0, 3, (x, width) -> x.row(0, width, 5), -2);
         for (int n : new int[] {61, Integer.MAX_VALUE}) {
             C.refused(Towns.TOWN, "n " + n, x -> x.row(0, 0, n), -2);
         }
@@ -343,9 +335,7 @@ public final class RowEdgesTest {
     /** Promise 45: "false, if it had nothing, or there is none such". */
     private static void promise45Refused() {
         C.refused(Towns.TOWN, "it had nothing", x -> x.tear(3) ? 1 : 0, 0);
-        for (int place : Checks.beyond(0, 3)) {
-            C.refused(Towns.TOWN, "PLACE " + place, x -> x.tear(place) ? 1 : 0, 0);
-        }
+        C.beyond(Towns.TOWN, "PLACE", 0, 3, (x, place) -> x.tear(place) ? 1 : 0, 0);
     }
 
     /** Promise 46: "Number i of the PLACE's row is v", and no other one. */
@@ -365,16 +355,12 @@ public final class RowEdgesTest {
 
     /** Promise 46: "-2: there is no such PLACE; -5: it has nothing; -6: there is no such number". */
     private static void promise46Refused() {
-        for (int place : Checks.beyond(0, 3)) {
-            C.refused(Towns.TOWN, "PLACE " + place, x -> x.write(place, 0, 1), -2);
-        }
+        C.beyond(Towns.TOWN, "PLACE", 0, 3, (x, place) -> x.write(place, 0, 1), -2);
         for (int i : Checks.beyond(0, 2)) {
             C.refused(Towns.TOWN, "number " + i, x -> x.write(0, i, 1), -6);
             C.refused(Towns.TOWN, "number " + i + " of nothing", x -> x.write(3, i, 1), -5);
         }
-        for (int i : Checks.beyond(0, 1)) {
-            C.refused(Towns.TOWN, "number " + i, x -> x.write(1, i, 1), -6);
-        }
+        C.beyond(Towns.TOWN, "number", 0, 1, (x, i) -> x.write(1, i, 1), -6);
     }
 
     /** Promise 47: "So many numbers .. are put to another one's, from one on". */

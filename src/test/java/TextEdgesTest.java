@@ -78,12 +78,8 @@ public final class TextEdgesTest {
 
     /** Promise 11: "NONE, and nothing happens, if it has not so many, or n is below 0". */
     private static void promise11Refused() {
-        for (int n : Checks.beyond(0, 14)) {
-            C.refused(Towns.TOWN, "end " + n, x -> x.end(n), -1);
-        }
-        for (int n : Checks.beyond(0, 300)) {
-            C.refused(Towns.FULL, "end " + n, x -> x.end(n), -1);
-        }
+        C.beyond(Towns.TOWN, "end", 0, 14, (x, n) -> x.end(n), -1);
+        C.beyond(Towns.FULL, "end", 0, 300, (x, n) -> x.end(n), -1);
         C.refused(Towns.CENTURY, "end 1 of none", x -> x.end(1), -1);
     }
 
@@ -146,9 +142,7 @@ public final class TextEdgesTest {
 
     /** Promise 12: "-2, and the TAPE stays: another YEAR". */
     private static void promise12Refused() {
-        for (int from : Checks.beyond(0, 99)) {
-            C.refused(Towns.TOWN, "act " + from, x -> x.act(from), -2);
-        }
+        C.beyond(Towns.TOWN, "act", 0, 99, (x, from) -> x.act(from), -2);
     }
 
     /** Promise 12: -2, and the TAPE stays: "12 are there" (even if one of them is from that YEAR). */
@@ -518,7 +512,8 @@ public final class TextEdgesTest {
             act(rule + eight + " when " + eight + "=" + eight + ";" + rule + eight, -1);
         }
         for (String rule : new String[] {"from 1 pay 1", "from 1 add 1", "counts 1", "part 1", "spare", "apart"}) {
-            act(rule + " when " + eight + "=" + eight + " or " + eight + "=1 and not(" + eight.substring(1, 16) + "=1)", -1);
+            String seven = eight.substring(1, 16);
+            act(rule + " when " + eight + "=" + eight + " or " + eight + "=1 and not(" + seven + "=1)", -1);
             act(rule + " when (" + eight + ")=1", rule.length() + 6 + 8);
             act(rule + " when 1=(" + eight + ")", rule.length() + 8 + 8);
         }
