@@ -208,22 +208,22 @@ public final class EveryCallTest {
     /** How many bytes the calls of one run make: far fewer than the room has fields and elements. */
     private static void roomOfCalls() {
         makes("new objects", x -> new WindowRoll(), 40_000_000);
-        makes("light, terms", x -> x.light(0, x.terms(1, 1, 1, 1), 5), 10_000);
-        makes("room, make, worth", x -> x.make(0, x.room(0, 0, 0, 0), x.worth(0, 1, 1)), 10_000);
-        makes("roof, down", x -> x.roof(0, x.down(2) ? 1 : 2), 10_000);
-        makes("act", x -> x.act(x.feed(0x61706172, 0x74202020, 0x20202020, 0x20202020, 0x20202020) % 11), 30_000);
-        makes("weight, counted, tax, due", x -> x.tax(0, x.weight(0, 0, 0), x.counted(0, 0, 0)), 10_000);
+        makes("light, terms", x -> x.light(0, x.terms(1, 1, 1, 1), 5), 100_000);
+        makes("room, make, worth", x -> x.make(0, x.room(0, 0, 0, 0), x.worth(0, 1, 1)), 100_000);
+        makes("roof, down", x -> x.roof(0, x.down(2) ? 1 : 2), 100_000);
+        makes("act", x -> x.act(x.feed(0x61706172, 0x74202020, 0x20202020, 0x20202020, 0x20202020) % 11), 150_000);
+        makes("weight, counted, tax, due", x -> x.tax(0, x.weight(0, 0, 0), x.counted(0, 0, 0)), 100_000);
         makes("plan, owner", x -> x.plan(0, 10 + x.owner()), 300_000);
-        makes("held, nearest, appeal", x -> x.held(0, x.nearest(0, 0), 0, true, true, x.appeal(0, 0) > 0), 30_000);
-        makes("overrule, heldOf", x -> x.heldOf(x.overrule(0), 0), 10_000);
-        makes("walk, look, late, go", x -> x.walk(x.look(0, 0), x.late(0, (int) x.go(), 0)), 10_000);
-        makes("route, roll, span, habit", x -> x.roll(x.route(0, 500), x.span(0, 0, 0, 0), x.habit(0, 1, 0), 0), 30_000);
-        makes("ask, answer", x -> x.answer(x.ask(0), x.feed(0x6e756d62, 0x65722020, 0x20202020, 0, 0)), 10_000);
-        makes("match, matched", x -> x.matched(x.match(0, 1, 1)), 40_000);
+        makes("held, nearest, appeal", x -> x.held(0, x.nearest(0, 0), 0, true, true, x.appeal(0, 0) > 0), 150_000);
+        makes("overrule, heldOf", x -> x.heldOf(x.overrule(0), 0), 100_000);
+        makes("walk, look, late, go", x -> x.walk(x.look(0, 0), x.late(0, (int) x.go(), 0)), 100_000);
+        makes("route, roll, span, habit", x -> x.roll(x.route(0, 500), x.span(0, 0, 0, 0), x.habit(0, 1, 0), 0), 150_000);
+        makes("ask, answer", x -> x.answer(x.ask(0), x.feed(0x6e756d62, 0x65722020, 0x20202020, 0, 0)), 100_000);
+        makes("match, matched", x -> x.matched(x.match(0, 1, 1)), 150_000);
         makes("beside", x -> x.beside(10, x.feed(0x61706172, 0x74202020, 0x20202020, 0x20202020, 0x20202020) / 20),
             300_000);
         makes("row, write, paste, tear", x -> x.tear(x.row(1, 1, 60) + x.write(1, 0, 1) + x.paste(1, 0, 1, 1, 9)),
-            10_000);
+            100_000);
     }
 
     private static void makes(String calls, Consumer<WindowRoll> done, long most) {
