@@ -217,7 +217,8 @@ public final class EveryCallTest {
         makes("held, nearest, appeal", x -> x.held(0, x.nearest(0, 0), 0, true, true, x.appeal(0, 0) > 0), 150_000);
         makes("overrule, heldOf", x -> x.heldOf(x.overrule(0), 0), 100_000);
         makes("walk, look, late, go", x -> x.walk(x.look(0, 0), x.late(0, (int) x.go(), 0)), 100_000);
-        makes("route, roll, span, habit", x -> x.roll(x.route(0, 500), x.span(0, 0, 0, 0), x.habit(0, 1, 0), 0), 150_000);
+        makes("route, roll, span, habit", x -> x.roll(x.route(0, 500), x.span(0, 0, 0, 0), x.habit(0, 1, 0), 0),
+            150_000);
         makes("ask, answer", x -> x.answer(x.ask(0), x.feed(0x6e756d62, 0x65722020, 0x20202020, 0, 0)), 100_000);
         makes("match, matched", x -> x.matched(x.match(0, 1, 1)), 150_000);
         makes("beside", x -> x.beside(10, x.feed(0x61706172, 0x74202020, 0x20202020, 0x20202020, 0x20202020) / 20),
