@@ -220,6 +220,19 @@ public final class ActEdgesTest {
         C.is("other RULES aside", weight("spare;from 0 pay 9;part 8;counts 3"), 3);
     }
 
+    /** Term II: each kind of RULE tells what is told of it, and nothing of what is told of another kind. */
+    private static void term2KindsOfRules() {
+        String[] rules = {"from 0 pay 5", "from 0 add 5", "counts 5", "part 5", "spare", "apart"};
+        int[] weights = {1, 1, 5, 1, 1, 1};
+        int[] taxes = {5, 110, 100, 5, 0, 100};
+        int[] others = {0, 0, 0, 0, 0, 1};
+        for (int k = 0; k < rules.length; k++) {
+            C.is("WEIGHT by " + rules[k], weight(rules[k]), weights[k]);
+            C.is("TAX by " + rules[k], tax("from 0 pay 100;" + rules[k], 1), taxes[k]);
+            C.is("TAX of the other one by " + rules[k], pair("from 1 pay 1;" + rules[k]).due(1), others[k]);
+        }
+    }
+
     /** Term II: WEIGHT: "(1 without one)". */
     private static void term2WeightWithout() {
         C.is("no RULES", weight(""), 1);
