@@ -1958,8 +1958,9 @@ public final class WindowRoll {
          * costs by itself, so one OPENING after the other may change or stay.
          */
         private void allowChanges(int number, int free) {
-            for (int bit = 1; bit < number; bit <<= 1) {
-                for (int s = 0; s < number && (free & bit) != 0; s++) {
+            for (int i = 0; i < MOST_OPENINGS; i++) {
+                int bit = free & 1 << i;
+                for (int s = 0; s < number && bit != 0; s++) {
                     if ((s & bit) == 0) {
                         long without = mostFrom[s];
                         long with = mostFrom[s | bit];
